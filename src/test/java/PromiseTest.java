@@ -112,6 +112,9 @@ public final class PromiseTest {
     finding(x, "7 missing", x.mean(3), NOTHING);
     x.row(3, 0);
     finding(x, "7 none", x.mean(3), NOUGHT);
+    Checks.lay(x, 3, 8);
+    due("7 of one", x.mean(3), 1);
+    due("7 of one", x.asked(), 8);
     Checks.lay(x, 3, -3, -4);
     due("7", x.mean(3), 1);
     due("7 cut towards 0", x.asked(), -3);
@@ -182,6 +185,10 @@ public final class PromiseTest {
     faultIs("w1l910", 3);
     faultIs("w1l000", 4);
     faultIs("w1l01x", 5);
+    faultIs("w1l0:0", 4);
+    faultIs("w1l01:", 5);
+    faultIs("w1l01/", 5);
+    faultIs("w/l010", 1);
     faultIs("w1l 010", 3);
     faultIs("w1l0 10", 4);
     faultIs("w1x010", 2);
@@ -477,8 +484,15 @@ public final class PromiseTest {
     due("23 no lines", new WashSails().fast(0), STATE);
     due("23 BAD ahead", new WashSails().fast(-1), BAD);
     x = Checks.town("w1l092l091l090");
-    due("23 the least number", x.fast(1), 4);
+    due("23 18 by 4", x.fast(1), 4);
     due("23 set", x.asked(), 6);
+    x = Checks.town("w1l090l090");
+    due("23 both", x.fast(0), 4);
+    x = Checks.town("w1l040l040k480");
+    due("23 the first alone, too", x.fast(0), 2);
+    x = Checks.town("w1l040l010l010");
+    due("23 the least number of as far", x.fast(0), 1);
+    due("23 set", x.asked(), 1);
     x = Checks.town("w1l012l091l090");
     due("23 no more linen than is of use", x.fast(99), 4);
     due("23 set", x.asked(), 6);
@@ -511,6 +525,7 @@ public final class PromiseTest {
     due("35 BAD", x.odds(-1, 0, 0), BAD);
     due("35 p", x.odds(0, 0, 13), BAD);
     due("35 p", x.odds(0, 0, -1), BAD);
+    due("35 p edge", x.odds(0, 0, 12), STATE);
     due("35 miles", x.odds(0, 1000, 0), BAD);
     due("35 miles", x.odds(0, -1000, 0), BAD);
     due("35 STATE", x.odds(0, 999, 0), STATE);
@@ -763,6 +778,10 @@ public final class PromiseTest {
     x.hang(0);
     x.rival(2);
     due("33 none", x.asked(), -1);
+    x = Checks.town("w4l410");
+    x.hang(0);
+    x.rival(1);
+    due("33 the first line goes, too", x.asked(), 0);
   }
 
   private static void mid() {
