@@ -6,7 +6,7 @@ import java.util.TreeMap;
 import java.util.regex.Matcher;
 import java.util.regex.Pattern;
 
-/** The document's own words, part by part, and which of them a test has been named after. */
+/** The document's own words, part by part, and which of them a test has been named after; none where there is no document. */
 final class Doc {
   /** Parts beside the promises, which are 1 to 44. */
   static final int TERMS = 0, USE = 45;
@@ -16,6 +16,10 @@ final class Doc {
   private final Map<Integer, boolean[]> said = new TreeMap<>();
 
   Doc(Path file) throws IOException {
+    if (!Files.exists(file)) {
+      System.out.println("there is no " + file + ": the words that tests are named after are not looked at");
+      return;
+    }
     String text = Files.readString(file);
     add(USE, between(text, "ANSWERS.", "## The public face"));
     add(TERMS, between(text, "## Terms", "Ahead of the calls").replaceAll("```(text)?", " ").replaceAll("======== \\d", " "));
@@ -37,6 +41,7 @@ final class Doc {
 
   /** Marks the first such words of the part that no test was named after yet. */
   boolean quote(int part, String words) {
+    if (parts.isEmpty()) return true;
     String text = parts.getOrDefault(part, "");
     int from = text.indexOf(words);
     for (int next = from; next >= 0; next = text.indexOf(words, next + 1)) {

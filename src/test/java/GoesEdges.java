@@ -349,6 +349,15 @@ final class GoesEdges extends Edges {
     for (int miles = 0; miles <= 6; miles++) due(x.soon(miles), hours[miles]);
     due(x.soon(-1), 0);
     due(x.soon(-999), 0);
+    // Each hour's pulls are cut, and none is lent by a line that is not of use.
+    x = Checks.town("w1l430k490b490");
+    due(x.soon(0), 0);
+    due(x.soon(1), NONE);
+    x = Checks.town("w1l470");
+    due(x.soon(1), 1);
+    due(x.soon(2), 2);
+    due(x.soon(3), 3);
+    due(x.soon(4), NONE);
     // An hour without wind in between.
     x = Checks.town("w400l440");
     due(x.soon(4), 1);
@@ -420,6 +429,11 @@ final class GoesEdges extends Edges {
     due(x.least(2, 9), 6);
     due(x.least(2, 11), 6);
     due(x.least(2, 12), NONE);
+    // Each hour's pulls are cut.
+    due(Checks.town("w1l431k491b491").least(3, 1), NONE);
+    due(Checks.town("w1l472l415").least(1, 1), 2);
+    due(Checks.town("w1l472l415").least(1, 2), 7);
+    due(Checks.town("w1l472l415").least(2, 3), 7);
     // Without linen.
     due(Checks.town("w4l440").least(1, 4), 0);
     says(29, "NONE: by none.");

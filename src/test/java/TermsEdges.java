@@ -202,6 +202,12 @@ final class TermsEdges extends Edges {
     WashSails x = withText(text);
     due(x.fault(1), want);
     due(x.town(1) > 0 ? 1 : 0, want == NONE ? 1 : 0);
+    // Whatever was read ahead of it has no part in it.
+    WashSails y = six();
+    Checks.write(y, 1, text);
+    due(y.fault(1), want);
+    due(y.fault(0), NONE);
+    due(y.town(1) > 0 ? 1 : 0, want == NONE ? 1 : 0);
   }
 
   private static void blanks() {
@@ -462,34 +468,26 @@ final class TermsEdges extends Edges {
     isAt(none, 0, 0);
   }
 
+  /** How wet all lines of a town are, hung out from the first hour on, behind each hour. */
+  private static void wetBehindHours(String town, int... want) {
+    WashSails x = Checks.town(town);
+    int lines = x.count(0);
+    for (int i = 0; i < lines; i++) x.hang(i);
+    for (int h = 0; h < want.length; h++) {
+      x.hour();
+      for (int i = 0; i < lines; i++) due(traitOf(x, i, 5), want[h]);
+    }
+  }
+
   private static void wetness() {
     says("Each LINE that is hung out is WET 1 less (if it is WET), if there is WIND;");
-    WashSails x = Checks.town("w011111l010k010");
-    x.hang(0);
-    x.hang(1);
-    int[] wet = {2, 1, 0, 0, 0, 0, 2, 1};
-    for (int h = 0; h < wet.length; h++) {
-      x.hour();
-      due(traitOf(x, 0, 5), wet[h]);
-      due(traitOf(x, 1, 5), wet[h]);
-    }
+    wetBehindHours("w011111l010k010", 2, 1, 0, 0, 0, 0, 2, 1);
+    wetBehindHours("w051l010b010", 2, 1, 0, 2, 1, 0);
     says("in an HOUR without WIND it rains: WET 2 more (9 at most);");
-    x = Checks.town("w0000001l010");
-    x.hang(0);
-    int[] rain = {2, 4, 6, 8, 9, 9, 8, 9, 9};
-    for (int h = 0; h < rain.length; h++) {
-      x.hour();
-      due(traitOf(x, 0, 5), rain[h]);
-    }
-    x = Checks.town("w0001000l010");
-    x.hang(0);
-    int[] odd = {2, 4, 6, 5, 7, 9, 9};
-    for (int h = 0; h < odd.length; h++) {
-      x.hour();
-      due(traitOf(x, 0, 5), odd[h]);
-    }
+    wetBehindHours("w0000001l010", 2, 4, 6, 8, 9, 9, 8, 9, 9);
+    wetBehindHours("w0001000l010", 2, 4, 6, 5, 7, 9, 9);
     says("who is not hung out stays as it is.");
-    x = Checks.town("w01l010l010");
+    WashSails x = Checks.town("w01l010l010");
     x.hang(0);
     x.hour();
     x.take(0);

@@ -76,6 +76,7 @@ final class TownEdges extends Edges {
     for (int i = 0; i < 2; i++) {
       for (int what = 0; what <= 6; what++) due(traitOf(x, i, what), traits[i][what]);
     }
+    lessThanBefore();
     // By the same text, too.
     x = old();
     due(x.town(0), 6);
@@ -107,6 +108,28 @@ final class TownEdges extends Edges {
     says(11, "(STATE behind NOTHING.)");
     found(Edges::fresh, NOTHING, y -> y.town(0));
     found(() -> withText("w"), NOTHING, y -> y.town(0));
+  }
+
+  /** What was reckoned of a greater town has no part in a lesser one's answers. */
+  private static void lessThanBefore() {
+    WashSails x = Checks.town("w5o890o890o890o090o090k090");
+    x.fast(99);
+    x.even(0);
+    x.far(3, 999, 0);
+    x.far(3, 0, 0);
+    x.rival(2);
+    Checks.write(x, 0, "w1l440l450");
+    due(x.town(0), 2);
+    due(x.fast(99), 2);
+    due(x.asked(), 3);
+    tells(x, x.even(2), 3, 1);
+    tells(x, x.ways(1, 0), 0, 2);
+    tells(x, x.even(0), 0, 1);
+    asks(x, x.far(3, 999, 0), 6);
+    rowIs(x, 0, 3, 3, 3);
+    due(x.soon(4), 2);
+    due(x.least(3, 6), 0);
+    asks(x, x.rival(1), 0);
   }
 
   private static void line() {
@@ -234,6 +257,7 @@ final class TownEdges extends Edges {
     says(15, "BAD;");
     for (int i : new int[] {-1, 6, LEAST, MOST}) bad(Edges::six, y -> y.hang(i));
     for (int i : new int[] {1, 5, 32}) bad(() -> Checks.town("w1l010"), y -> y.hang(i));
+    for (int i : new int[] {-32, 32, 64}) bad(() -> withDeeds("w1l010", 1), y -> y.hang(i));
     bad(Edges::fresh, y -> y.hang(0));
     says(15, "STATE: it is;");
     refused(() -> withDeeds(SIX, 1), STATE, y -> y.hang(0));
@@ -274,7 +298,7 @@ final class TownEdges extends Edges {
     }
     says(16, "BAD;");
     for (int i : new int[] {-1, 6, LEAST, MOST}) bad(() -> withDeeds(SIX, 1), y -> y.take(i));
-    for (int i : new int[] {1, 5, 32}) bad(() -> withDeeds("w1l010", 1), y -> y.take(i));
+    for (int i : new int[] {1, 5, 32, -32}) bad(() -> withDeeds("w1l010", 1), y -> y.take(i));
     bad(Edges::fresh, y -> y.take(0));
     says(16, "STATE: it is not hung out;");
     refused(Edges::six, STATE, y -> y.take(0));
@@ -404,6 +428,15 @@ final class TownEdges extends Edges {
     due(x.digest(), then);
     due(x.undo(2), 2);
     counts(x, 2, 1, 2, 1, 2);
+    // Other deeds in the places of those that were kept.
+    x.undo(0);
+    x.hang(1);
+    behindHours(x, 4);
+    due(x.on(1), 4);
+    due(x.digest(), then);
+    due(x.undo(1), 3);
+    due(traitOf(x, 0, 4), 1);
+    due(traitOf(x, 1, 4), 0);
     WashSails full = withDeeds("w1l010", 40);
     full.keep(0);
     full.undo(0);
