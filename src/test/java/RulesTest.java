@@ -58,6 +58,22 @@ public final class RulesTest {
     insides(c, names);
   }
 
+  /** The lists above are the document's own: its face, line by line, where the document is there. */
+  private static void facesAgree() throws java.io.IOException {
+    Path file = Path.of("../shared/DOC.md");
+    if (!Files.exists(file)) return;
+    String text = Files.readString(file);
+    String face = text.substring(text.indexOf("public final class WashSails {"), text.indexOf("## Terms"));
+    Set<String> methods = new TreeSet<>();
+    Matcher method = Pattern.compile("public (int|long) (\\w+)\\(([^)]*)\\);").matcher(face);
+    while (method.find()) methods.add(method.group(1) + " " + method.group(2) + "(" + method.group(3).replaceAll(" \\w+(,|$)", "$1").replace(" ", "") + ")");
+    holds("the document's methods: " + methods, methods.equals(new TreeSet<>(Arrays.asList(FACE))));
+    StringBuilder constants = new StringBuilder("public static final int ");
+    for (int k = 0; k < CONSTANTS.length; k++) constants.append(k == 0 ? "" : ", ").append(CONSTANTS[k]).append(" = ").append(VALUES[k]);
+    holds("the document's constants: " + constants, face.contains(constants + ";"));
+    Checks.due("lines of the document's face", face.lines().filter(line -> line.startsWith("    public ")).count(), FACE.length + 2);
+  }
+
   private static void insides(Class<?> c, Set<String> publicNames) {
     holds("at most twelve classes", c.getDeclaredClasses().length <= 11);
     for (Class<?> inside : c.getDeclaredClasses()) {
@@ -143,6 +159,7 @@ public final class RulesTest {
 
   public static void main(String[] args) throws Exception {
     face();
+    facesAgree();
     source();
     wild();
     Checks.end("RulesTest");
